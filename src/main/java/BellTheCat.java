@@ -295,12 +295,12 @@ public final class BellTheCat {
         }
         int all = 0;
         for (int m = 0; m < told.miceCount; m++) {
-            all += now.lives(m) ? told.tickets[m] : 0;
+            all += ticketsInLot(m);
         }
         if (all == 0) {
             return NOT;
         }
-        return (int) partOf(now.lives(mouse) ? told.tickets[mouse] : 0, all, part);
+        return (int) partOf(ticketsInLot(mouse), all, part);
     }
 
     public int alone(int mouse, int part) {
@@ -363,10 +363,9 @@ public final class BellTheCat {
         int which = NONE;
         int most = 0;
         for (int r = 0; r < told.ratCount; r++) {
-            int worth = told.gain * told.skills[r] * told.words[r] - 100 * told.prices[r];
-            if (worth > most) {
+            if (told.worthOf(r) > most) {
                 which = r;
-                most = worth;
+                most = told.worthOf(r);
             }
         }
         if (which == NONE) {
@@ -472,6 +471,10 @@ public final class BellTheCat {
             }
         }
         return NONE;
+    }
+
+    private int ticketsInLot(int mouse) {
+        return told.hasMouse(mouse) && now.lives(mouse) ? told.tickets[mouse] : 0;
     }
 
     /* Who has the least dread of those who live; NONE: nobody lives. */
@@ -700,6 +703,10 @@ public final class BellTheCat {
             return hasMouse(mouse) ? fears[mouse] : 0;
         }
 
+        int worthOf(int rat) {
+            return hasRat(rat) ? gain * skills[rat] * words[rat] - 100 * prices[rat] : 0;
+        }
+
         int dangerAt(int step, int mouse) {
             if (!hasStep(step) || !hasMouse(mouse)) {
                 return 0;
@@ -746,14 +753,15 @@ public final class BellTheCat {
         int readInto(House draft) {
             end = 0;
             nextToken();
-            for (clauses = 1; clauses <= MOST_CLAUSES; clauses++) {
+            for (int done = 1; done <= MOST_CLAUSES; done++) {
                 if (!readClause(draft)) {
                     return start;
                 }
                 if (start >= length) {
+                    clauses = done;
                     return NONE;
                 }
-                if (letterAt(start) != ';' || clauses == MOST_CLAUSES) {
+                if (letterAt(start) != ';' || done == MOST_CLAUSES) {
                     return start;
                 }
                 nextToken();
@@ -781,22 +789,39 @@ public final class BellTheCat {
         }
 
         private void nextToken() {
-            start = end;
-            while (start < length && letterAt(start) == BLANK) {
-                start++;
+            start = endOfBlanks(end);
+            int letter = letterAt(start);
+            if (isSmall(letter)) {
+                end = endOfWord(start);
+            } else if (isDigit(letter)) {
+                end = endOfNumber(start);
+            } else {
+                end = Math.min(length, start + 1);
             }
-            end = start;
-            if (isSmall(letterAt(start))) {
-                while (end < length && isSmall(letterAt(end))) {
-                    end++;
-                }
-            } else if (isDigit(letterAt(start))) {
-                while (end < length && isDigit(letterAt(end))) {
-                    end++;
-                }
-            } else if (end < length) {
-                end++;
+        }
+
+        private int endOfBlanks(int from) {
+            int place = from;
+            while (place < length && letterAt(place) == BLANK) {
+                place++;
             }
+            return place;
+        }
+
+        private int endOfWord(int from) {
+            int place = from;
+            while (place < length && isSmall(letterAt(place))) {
+                place++;
+            }
+            return place;
+        }
+
+        private int endOfNumber(int from) {
+            int place = from;
+            while (place < length && isDigit(letterAt(place))) {
+                place++;
+            }
+            return place;
         }
 
         private int letterAt(int place) {
@@ -1056,22 +1081,24 @@ public final class BellTheCat {
             Arrays.fill(bestRow, NONE);
             bestAbove = NONE;
             mayRepeat = told.stepCount > Integer.bitCount(now.living);
-            tryFrom(0, 1, 0);
+            tryFrom(this, 0, 1, 0);
         }
 
-        private void tryFrom(int step, long above, int used) {
+        /* The steps ahead of this one have their doers in the row. */
+        private static void tryFrom(Search at, int step, long above, int used) {
+            House told = at.told;
             if (!told.hasStep(step)) {
-                takeIfBetter(above);
+                at.takeIfBetter(above);
                 return;
             }
             /* An equal one that comes later is not taken, so it need not be sought. */
-            if (above * tenTo(told.stepCount - step) <= bestAbove) {
+            if (above * tenTo(told.stepCount - step) <= at.bestAbove) {
                 return;
             }
             for (int m = 0; m < told.miceCount; m++) {
-                if (now.lives(m) && (mayRepeat || (used >> m & 1) == 0)) {
-                    row[step] = m;
-                    tryFrom(step + 1, above * (MOST_DANGER - told.dangerAt(step, m)), used | 1 << m);
+                if (at.now.lives(m) && (at.mayRepeat || (used >> m & 1) == 0)) {
+                    at.row[step] = m;
+                    tryFrom(at, step + 1, above * (MOST_DANGER - told.dangerAt(step, m)), used | 1 << m);
                 }
             }
         }

@@ -105,6 +105,7 @@ public final class ForetoldTest {
     }
 
     private static void bestOfDistinct() {
+        Check.due("bestOf(2) ahead of best", 3, Check.told(FABLE).bestOf(2));
         best("the fable", Check.told(FABLE), 12, 25, 0, 1, 3);
         best("as many", Check.told("plain 9 0 0;plain 0 0 0;step 5;step 5"), 1, 2, 0, 1);
         best("the later", Check.told("plain 9 0 0;plain 5 0 0;step 5;step 9"), 1, 1, 1, 0);
@@ -195,6 +196,9 @@ public final class ForetoldTest {
             Check.due("rests(" + row[0] + ", 0)", row[1], cat.rests(row[0], 0));
             Check.due("rests(" + row[0] + ", 1)", row[2], cat.rests(row[0], 1));
         }
+        for (int i = want.length - 1; i >= 0; i--) {
+            Check.due("rests(" + want[i][0] + ", 0), backwards", want[i][1], cat.rests(want[i][0], 0));
+        }
         Check.due("rests(-1, 0)", OUTSIDE, cat.rests(-1, 0));
         Check.due("rests(100, 1)", OUTSIDE, cat.rests(100, 1));
         Check.due("rests(0, 2)", OUTSIDE, cat.rests(0, 2));
@@ -210,6 +214,9 @@ public final class ForetoldTest {
         BellTheCat poor = Check.told("plain 0 10 0;step 5;gain 0");
         Check.due("nobody goes for nothing", 0, poor.rests(0, 1));
         Check.due("only none", 1, poor.rests(4, 0));
+        Check.due("by 5 either", 2, poor.rests(5, 0));
+        Check.due("by 6 he goes", 1, poor.rests(6, 1));
+        Check.due("only none again", 0, poor.rests(4, 1));
         BellTheCat dead = withDead("plain 0 2 0;plain 0 10 0;step 5;gain 5", 0);
         Check.due("of who live", 2, dead.rests(0, 0));
         Check.due("the one who lives", 2, dead.rests(1, 1));
@@ -239,6 +246,7 @@ public final class ForetoldTest {
         Check.due("none above 0", NONE, none.rats(0));
         Check.due("how much of none", NONE, none.rats(1));
         Check.due("rats(2) of none", OUTSIDE, none.rats(2));
+        Check.due("the least above 0", 1, Check.told("rat 0 1 1;gain 1").rats(1));
         Check.due("the most", 9900, Check.told("rat 0 10 10;gain 99").rats(1));
     }
 
@@ -291,7 +299,8 @@ public final class ForetoldTest {
         long[][] want = {{1, 5, 20, 10, 5, 1}, {2, 5, 20, 10, 15, 2}, {1, 5, 10, 10, 0, 1},
             {6, 9, 99, 0, 98999901, 1000000}, {6, 0, 99, 0, 0, 1}, {6, 10, 99, 99, 99, 1},
             {3, 1, 99, 99, 0, 1}, {1, 1, 99, 11, 0, 1}, {6, 1, 99, 11, 0, 1},
-            {6, 3, 97, 1, 20882307, 250000}, {6, 7, 99, 99, 14132547, 250000}, {6, 1, 99, 10, 4217031, 1000000}, {6, 0, 0, 99, 0, 1}};
+            {6, 3, 97, 1, 20882307, 250000}, {6, 7, 99, 99, 14132547, 250000},
+            {6, 1, 99, 10, 4217031, 1000000}, {6, 0, 0, 99, 0, 1}};
         for (long[] row : want) {
             int n = (int) row[0];
             int q = (int) row[1];

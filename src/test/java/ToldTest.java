@@ -56,6 +56,8 @@ public final class ToldTest {
         Check.faultOf("   cheese", 3);
         Check.faultOf("quie", 0);
         Check.faultOf("quiets", 0);
+        Check.faultOf("quietz", 0);
+        Check.faultOf("quieta", 0);
         Check.faultOf("Quiet", 0);
         Check.faultOf("quieT", 0);
         Check.faultOf("quiet;housE", 6);
@@ -167,15 +169,18 @@ public final class ToldTest {
             Check.due("in their order: count(" + what + ")", want[what], cat.count(what));
         }
         Check.due("the noise of the later", 4, cat.step(0, 0));
-        Check.tell(cat, "house");
-        Check.due("gain as at first", 20, cat.count(3));
+        Check.tell(cat, "plain 1 2 3;house");
+        Check.due("mice as at first", 0, cat.count(0));
+        Check.due("steps as at first", 0, cat.count(1));
         Check.due("rats as at first", 0, cat.count(2));
+        Check.due("gain as at first", 20, cat.count(3));
     }
 
     private static void whatStaysAndWhatEnds() {
         BellTheCat cat = Check.told("plain 0 10 1;plain 0 20 2;step 5;rat 3 4 5;gain 11");
         cat.put(0, 0);
         cat.seen(0, 1);
+        cat.keep(0);
         cat.keep(1);
         cat.night(1);
         Check.due("one is caught", 2, cat.count(5));
@@ -187,7 +192,8 @@ public final class ToldTest {
         for (int what = 0; what < want.length; what++) {
             Check.due("behind a text: count(" + what + ")", want[what], cat.count(what));
         }
-        Check.due("nothing is kept", BellTheCat.NOT, cat.back(1));
+        Check.due("nothing is kept as 0", BellTheCat.NOT, cat.back(0));
+        Check.due("nothing is kept as 1", BellTheCat.NOT, cat.back(1));
         Check.due("nobody does it", BellTheCat.NONE, cat.step(0, 1));
         Check.due("the first mouse stays", 10, cat.mouse(0, 2));
         Check.due("the third mouse", 3, cat.mouse(2, 0));
