@@ -1,3 +1,7 @@
+import java.util.List;
+import java.util.function.Supplier;
+import java.util.function.ToLongFunction;
+
 /** What the tests of the project share: texts told at once, and answers that are due. */
 final class Check {
     private static int wrong = 0;
@@ -43,6 +47,24 @@ final class Check {
         BellTheCat cat = new BellTheCat();
         write(cat, text);
         due("fault() of \"" + text + "\"", place, cat.fault());
+    }
+
+    static void same(String what, List<Long> want, List<Long> got) {
+        due(what + ": " + got + " where due is " + want, 1, want.equals(got) ? 1 : 0);
+    }
+
+    /** A call answers this, and its object is then as its twin who never had the call. */
+    static void changesNothing(String call, Supplier<BellTheCat> made, ToLongFunction<BellTheCat> ask, long want) {
+        BellTheCat cat = made.get();
+        due(call, want, ask.applyAsLong(cat));
+        same(call + " changes", View.toTheEnd(made.get()), View.toTheEnd(cat));
+    }
+
+    /** The same of a call whose answer is due elsewhere; it was not refused. */
+    static void foretells(String call, Supplier<BellTheCat> made, ToLongFunction<BellTheCat> ask) {
+        BellTheCat cat = made.get();
+        due(call + " is refused", 0, ask.applyAsLong(cat) < BellTheCat.NONE ? 1 : 0);
+        same(call + " changes", View.toTheEnd(made.get()), View.toTheEnd(cat));
     }
 
     static void end() {
