@@ -280,6 +280,10 @@ public final class ForetoldEdgesTest {
         best("the last order of five", Check.told("plain4 1 1;plain3 1 1;plain2 1 1;plain1 1 1;plain0 1 1;"
             + "step0;step1;step2;step3;step4"), 1, 1, 4, 3, 2, 1, 0);
         best("no steps", Check.told("plain1 1 1"), 1, 1);
+        BellTheCat cat = Check.told("plain0 1 1;plain9 1 1;step9");
+        Check.due("bestOf(0), best() was not asked", 1, cat.bestOf(0));
+        Check.tell(cat, "step 9");
+        Check.due("bestOf(1) behind another text", 1, cat.bestOf(1));
         Check.due("bestOf(-1)", UNKNOWN, Check.told("plain1 1 1;step1").bestOf(-1));
     }
 
@@ -458,6 +462,8 @@ public final class ForetoldEdgesTest {
         rests("dread 20 and 10", apart, 11, 1, 2);
         rests("dread 20 and 10", apart, 20, 2, 2);
         rests("dread 20 and 10", apart, 21, 1, 3);
+        rests("dread 20 and 10, a lesser fund again", apart, 0, 2, 1);
+        rests("dread 20 and 10, and more again", apart, 11, 1, 2);
     }
 
     private static void restsWithoutGain() {

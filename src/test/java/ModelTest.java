@@ -94,9 +94,12 @@ public final class ModelTest {
     }
 
     private void putAll() throws ReflectiveOperationException {
-        for (int s = 0; s < cat.count(1); s++) {
+        /* The model is asked how many there are: calls of the object are counted. */
+        long steps = model.call("count", new int[] {1});
+        int mice = (int) model.call("count", new int[] {0});
+        for (int s = 0; s < steps; s++) {
             if (random.nextInt(12) != 0) {
-                both("put", s, random.nextInt(Math.max(1, cat.count(0))));
+                both("put", s, random.nextInt(Math.max(1, mice)));
             }
         }
         both("through", random.nextInt(2));

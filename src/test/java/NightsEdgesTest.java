@@ -1,3 +1,4 @@
+import java.lang.reflect.Field;
 import java.math.BigInteger;
 
 /** The edges that section 2 of the document and promises 11 to 16 name, each sentence by a test of its own. */
@@ -5,9 +6,10 @@ public final class NightsEdgesTest {
     private static final int NONE = BellTheCat.NONE;
     private static final int OUTSIDE = BellTheCat.OUTSIDE;
     private static final int NOT = BellTheCat.NOT;
+    private static final int FULL = BellTheCat.FULL;
     private static final String SIX = "plain0 1 1;plain0 1 1;plain0 1 1;plain0 1 1;plain0 1 1;plain0 1 1;";
 
-    public static void main(String[] args) {
+    public static void main(String[] args) throws ReflectiveOperationException {
         puttingOneByOne();
         inPlaceOfWhoWas();
         oneForAllSteps();
@@ -24,6 +26,7 @@ public final class NightsEdgesTest {
         theNextNight();
         tillNobodyIsLeft();
         theBellIsOnAlready();
+        theLastNight();
         undoingOneByOne();
         undoingWhatChangedNothing();
         undoingRefusedCalls();
@@ -273,6 +276,38 @@ public final class NightsEdgesTest {
         nightIs("on yet", cat, 1, 3, 1, 0);
         Check.due("back(0)", 0, cat.back(0));
         Check.due("off again", NONE, cat.night(0));
+    }
+
+    /**
+     * "FULL: it is NIGHT 999". No run of calls comes so far, as each night
+     * but the last loses one of six mice: so the night is set from within.
+     */
+    private static void theLastNight() throws ReflectiveOperationException {
+        BellTheCat cat = Check.told("coward9 1 1;plain9 1 1;step6");
+        cat.put(0, 0);
+        setNight(cat, 998);
+        Check.due("night 998 can be", 0, cat.night(0));
+        Check.due("night(0), nobody is put", NOT, cat.night(0));
+        cat.put(0, 1);
+        nightIs("it is night 999", cat, 999, 2, 0, 1);
+        Check.due("night(10000), night 999", OUTSIDE, cat.night(10000));
+        Check.due("night(0), night 999", FULL, cat.night(0));
+        Check.due("night(9999), night 999", FULL, cat.night(9999));
+        nightIs("it is night 999 yet", cat, 999, 2, 0, 1);
+        Check.due("what can be undone", 3, cat.count(9));
+        BellTheCat belled = States.belled();
+        setNight(belled, 999);
+        Check.due("night(0), night 999, the bell is on", NOT, belled.night(0));
+    }
+
+    private static void setNight(BellTheCat cat, int number) throws ReflectiveOperationException {
+        Field now = BellTheCat.class.getDeclaredField("now");
+        now.setAccessible(true);
+        Object team = now.get(cat);
+        Field nights = team.getClass().getDeclaredField("nights");
+        nights.setAccessible(true);
+        nights.setInt(team, number);
+        Check.due("the night is set", number, cat.count(4));
     }
 
     // ---- promise 14
