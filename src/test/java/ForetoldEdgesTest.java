@@ -444,6 +444,7 @@ public final class ForetoldEdgesTest {
         rests("dread 21, gain 20", more, 0, 1, 0);
         rests("dread 21, gain 20", more, 1, 2, 0);
         rests("dread 21, gain 20", more, 2, 1, 1);
+        rests("dread 21, gain 20, by nothing again", more, 0, 1, 0);
         BellTheCat less = Check.told("coward0 19 0;step6");
         rests("dread 19, gain 20", less, 0, 1, 1);
     }

@@ -133,6 +133,16 @@ public final class ToldEdgesTest {
         Check.due("nothing is left to read", 0, cat.fault());
         Check.write(cat, "house");
         Check.due("what is read is new", NONE, cat.fault());
+        cat.erase();
+        Check.write(cat, "plain 1 2 3");
+        cat.erase();
+        Check.write(cat, "plain 1 2 ");
+        Check.due("no number is left of the former text", 10, cat.fault());
+        cat.erase();
+        Check.write(cat, "quiet;quiet");
+        cat.erase();
+        Check.write(cat, "quiet;");
+        Check.due("no word is left of the former text", 6, cat.fault());
     }
 
     private static void erasingChangesNothingElse() {
