@@ -65,7 +65,7 @@ public final class BellTheCat {
         }
         isKept = new boolean[MOST_KEPT];
         sightings = new Sightings();
-        search = new Search(told, now);
+        search = new Search();
         offers = new Offers();
     }
 
@@ -271,7 +271,7 @@ public final class BellTheCat {
         if (!isPart(part)) {
             return OUTSIDE;
         }
-        search.run();
+        search.run(told, now.living);
         if (search.bestAbove < 0) {
             return NOT;
         }
@@ -282,7 +282,7 @@ public final class BellTheCat {
         if (!told.hasStep(step)) {
             return UNKNOWN;
         }
-        search.run();
+        search.run(told, now.living);
         return search.bestRow[step];
     }
 
@@ -1064,29 +1064,21 @@ public final class BellTheCat {
 
     /** The best team, looked for among all, the first ones first. */
     private static final class Search {
-        private final House told;
-        private final Team now;
         private final int[] row = new int[MOST_STEPS];
         final int[] bestRow = new int[MOST_STEPS];
         /* Above 10 to the power of the number of steps; NONE: no team. */
         long bestAbove;
         private boolean mayRepeat;
 
-        Search(House told, Team now) {
-            this.told = told;
-            this.now = now;
-        }
-
-        void run() {
+        void run(House told, int living) {
             Arrays.fill(bestRow, NONE);
             bestAbove = NONE;
-            mayRepeat = told.stepCount > Integer.bitCount(now.living);
-            tryFrom(this, 0, 1, 0);
+            mayRepeat = told.stepCount > Integer.bitCount(living);
+            tryFrom(this, told, 0, 1, living);
         }
 
-        /* The steps ahead of this one have their doers in the row. */
-        private static void tryFrom(Search at, int step, long above, int used) {
-            House told = at.told;
+        /* The steps ahead of this one have their doers in the row; who is free may do it. */
+        private static void tryFrom(Search at, House told, int step, long above, int free) {
             if (!told.hasStep(step)) {
                 at.takeIfBetter(above);
                 return;
@@ -1096,9 +1088,10 @@ public final class BellTheCat {
                 return;
             }
             for (int m = 0; m < told.miceCount; m++) {
-                if (at.now.lives(m) && (at.mayRepeat || (used >> m & 1) == 0)) {
+                if ((free >> m & 1) == 1) {
                     at.row[step] = m;
-                    tryFrom(at, step + 1, above * (MOST_DANGER - told.dangerAt(step, m)), used | 1 << m);
+                    int left = at.mayRepeat ? free : free & ~(1 << m);
+                    tryFrom(at, told, step + 1, above * (MOST_DANGER - told.dangerAt(step, m)), left);
                 }
             }
         }
