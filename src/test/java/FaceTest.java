@@ -1,29 +1,21 @@
-import java.io.IOException;
 import java.lang.reflect.Constructor;
 import java.lang.reflect.Field;
 import java.lang.reflect.Method;
 import java.lang.reflect.Modifier;
-import java.nio.file.Files;
-import java.nio.file.Path;
 import java.util.Arrays;
-import java.util.HashSet;
 import java.util.Set;
 import java.util.TreeSet;
-import java.util.regex.Matcher;
-import java.util.regex.Pattern;
 
-/** The public face, and those rules of LANGUAGE.md that can be seen from outside. */
+/** The public face: its constants, its constructor, its methods with their types; and that no call throws. */
 public final class FaceTest {
     private static final String FACE = "as/2 alone/2 back/1 best/1 bestOf/1 callOff/5 clear/0 count/1 danger/2"
         + " dread/2 drawn/2 erase/0 fails/2 fault/0 forget/0 fund/0 hires/1 house/0 keep/1 loss/1 mouse/2 night/1"
         + " put/2 rat/2 rats/1 rests/2 seen/2 shoe/5 step/2 teamOf/1 teams/1 through/1 undo/0 write/1";
     private static final String CONSTANTS = "FULL NONE NOT OUTSIDE UNKNOWN";
 
-    public static void main(String[] args) throws IOException {
+    public static void main(String[] args) {
         constants();
         members();
-        namesOfMethods(BellTheCat.class);
-        forbiddenWords();
         neverThrows();
         Check.end();
     }
@@ -56,43 +48,6 @@ public final class FaceTest {
         Constructor<?>[] constructors = BellTheCat.class.getDeclaredConstructors();
         due("constructors", "[public BellTheCat()]", Arrays.toString(constructors));
         Check.due("final", 1, Modifier.isFinal(BellTheCat.class.getModifiers()) ? 1 : 0);
-    }
-
-    /** No method of the program but the public ones bears one of their names; none takes more than seven. */
-    private static void namesOfMethods(Class<?> owner) {
-        Set<String> face = new HashSet<>();
-        for (String method : FACE.split(" ")) {
-            face.add(method.substring(0, method.indexOf('/')));
-        }
-        for (Method method : owner.getDeclaredMethods()) {
-            boolean isPrivate = Modifier.isPrivate(method.getModifiers());
-            Check.due(method + " bears a public name", 0, isPrivate && face.contains(method.getName()) ? 1 : 0);
-        }
-        for (Class<?> inside : owner.getDeclaredClasses()) {
-            Check.due(inside + " is static", 1, Modifier.isStatic(inside.getModifiers()) ? 1 : 0);
-            for (Method method : inside.getDeclaredMethods()) {
-                Check.due(method + " bears a public name", 0, face.contains(method.getName()) ? 1 : 0);
-                Check.due(method + " takes too many", 0, method.getParameterCount() > 7 ? 1 : 0);
-            }
-            for (Field field : inside.getDeclaredFields()) {
-                Check.due(field + " is static state", 0, Modifier.isStatic(field.getModifiers()) ? 1 : 0);
-            }
-        }
-    }
-
-    private static void forbiddenWords() throws IOException {
-        String source = Files.readString(Path.of("src/main/java/BellTheCat.java"));
-        String bare = source.replaceAll("(?s)/\\*.*?\\*/", " ").replaceAll("//[^\n]*", " ");
-        Matcher matcher = Pattern.compile("\\b(throw|throws|try|catch|finally|synchronized|assert|package|native"
-            + "|\\w+Exact|double|float|hashCode|toString|Random|Thread|Object)\\b|->|::").matcher(bare);
-        while (matcher.find()) {
-            due("a word of the source", "none such", matcher.group());
-        }
-        Matcher imports = Pattern.compile("import ([\\w.*]+);").matcher(bare);
-        while (imports.find()) {
-            due("import", "java.util.Arrays", imports.group(1));
-        }
-        source.chars().forEach(sign -> Check.due("sign " + sign, 1, sign == '\n' || sign >= 32 && sign < 127 ? 1 : 0));
     }
 
     /** Numbers from everywhere, to a new object and to a full one. */
